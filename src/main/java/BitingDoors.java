@@ -11,6 +11,7 @@ public final class BitingDoors {
     private static final int THING = 2;
     private static final int DOORWAY = 10;
     private static final int SIDE = 10;
+    private static final int HALF = 5;
     private static final int MOST_DOORS = 10;
     private static final int HANGINGS = 4;
     private static final int ANGLES = 3;
@@ -571,7 +572,7 @@ public final class BitingDoors {
 
     /** What was told of a door, and the cells of its leaf by each hanging at each angle. */
     private static final class Door {
-        /** Cells as bits, the rows 0 to 4 in the low half and 5 to 9 in the high one, which one long could not hold. */
+        /** Cells as bits, the rows 0 to 4 in the low half and 5 to 9 in the high one: one long can't hold them all. */
         final long[] low = new long[HANGINGS * ANGLES];
         final long[] high = new long[HANGINGS * ANGLES];
         final long[] sweptLow = new long[HANGINGS];
@@ -643,7 +644,8 @@ public final class BitingDoors {
 
         boolean leafHas(int h, int angle, int cell) {
             int leaf = ANGLES * h + angle;
-            return cell < 50 ? (low[leaf] >>> cell & 1) == 1 : (high[leaf] >>> (cell - 50) & 1) == 1;
+            boolean north = cell < SIDE * HALF;
+            return (north ? low[leaf] >>> cell & 1 : high[leaf] >>> cell - SIDE * HALF & 1) == 1;
         }
 
         int leafCell(int h, int angle, int k) {
@@ -708,10 +710,10 @@ public final class BitingDoors {
                 return;
             }
             int cell = SIDE * cellY + cellX;
-            if (cell < 50) {
+            if (cell < SIDE * HALF) {
                 low[leaf] |= 1L << cell;
             } else {
-                high[leaf] |= 1L << (cell - 50);
+                high[leaf] |= 1L << cell - SIDE * HALF;
             }
         }
     }
@@ -1029,18 +1031,22 @@ public final class BitingDoors {
                 return false;
             }
             Door door = house.doors[d];
-            int x = place % SIDE;
-            int y = place / SIDE;
-            for (int cellY = Math.max(0, y - 1); cellY <= Math.min(SIDE - 1, y + 1); cellY++) {
-                for (int cellX = Math.max(0, x - 1); cellX <= Math.min(SIDE - 1, x + 1); cellX++) {
-                    int cell = SIDE * cellY + cellX;
-                    boolean near = door.leafHas(hanging[d], angle[d], cell) || door.leafHas(hanging[d], 0, cell);
-                    if (near && cell != place) {
-                        return true;
-                    }
-                }
+            int doorway = ANGLES * hanging[d];
+            int leaf = doorway + angle[d];
+            long nearLow = (door.low[doorway] | door.low[leaf]) & cellsAbout(place, 0);
+            long nearHigh = (door.high[doorway] | door.high[leaf]) & cellsAbout(place, HALF);
+            return (nearLow | nearHigh) != 0;
+        }
+
+        /** The eight cells about one, as bits of the half of the rows that begins with the first one. */
+        private static long cellsAbout(int cell, int first) {
+            int y = cell / SIDE;
+            long three = (7L << cell % SIDE) >> 1 & 1023;
+            long bits = 0;
+            for (int row = Math.max(first, y - 1); row <= Math.min(first + HALF - 1, y + 1); row++) {
+                bits |= (row == y ? three & ~(1L << cell % SIDE) : three) << SIDE * (row - first);
             }
-            return false;
+            return bits;
         }
 
         boolean isAct(int act) {
