@@ -402,13 +402,14 @@ public final class OracleTest {
                 length = pick(1, 3);
                 x = pick(0, grid[0].length - 1);
                 y = pick(0, grid.length - 1);
-                // in a corner nothing swings
-                good = i > 50 || grid.length < 3 || x + y > 0 && (across ? y > 0 : x > 0);
+                good = true;
                 for (int j = 0; j < length; j++) {
                     int cx = across ? x : x + j;
                     int cy = across ? y + j : y;
                     good = good && cx < grid[0].length && cy < grid.length && grid[cy][cx] == 'w' && !taken.contains(100 * cy + cx);
                 }
+                // a door that can't be hung at all leaves little to solve
+                good = good && (i > 50 || random.nextInt(12) == 0 || !fitOnes(grid, x, y, across, length).isEmpty());
             }
             if (!good && random.nextInt(12) > 0) {
                 return;
@@ -423,9 +424,9 @@ public final class OracleTest {
             List<Integer> hangings = new ArrayList<>(List.of(0, 1, 2, 3));
             java.util.Collections.shuffle(hangings, random);
             if (random.nextInt(9) > 0 && good) {
-                keepFit(hangings, grid, x, y, across, length);
+                keepFit(hangings, fitOnes(grid, x, y, across, length));
             }
-            int many = Math.min(hangings.size(), sparse ? pick(1, 3) : pick(1, 4));
+            int many = Math.min(hangings.size(), sparse ? pick(2, 3) : pick(random.nextInt(3) == 0 ? 1 : 2, 4));
             for (int i = 0; i < many; i++) {
                 text.append(i == 0 ? " " : " may ").append(hangings.get(i));
             }
@@ -439,7 +440,18 @@ public final class OracleTest {
         }
 
         /** Most doors are told with hangings that are fit, if there are any, so that there is something to solve. */
-        void keepFit(List<Integer> hangings, char[][] grid, int x, int y, boolean across, int length) {
+        void keepFit(List<Integer> hangings, List<Integer> fit) {
+            if (!fit.isEmpty()) {
+                List<Integer> unfit = new ArrayList<>(hangings);
+                unfit.removeAll(fit);
+                hangings.retainAll(fit);
+                if (!unfit.isEmpty() && random.nextInt(3) == 0) {
+                    hangings.add(0, unfit.get(0));
+                }
+            }
+        }
+
+        List<Integer> fitOnes(char[][] grid, int x, int y, boolean across, int length) {
             Model.House house = new Model.House();
             for (char[] row : grid) {
                 house.rows.add(new String(row));
@@ -450,11 +462,9 @@ public final class OracleTest {
             door.across = across;
             door.length = length;
             house.doors.add(door);
-            List<Integer> fit = new ArrayList<>(hangings);
+            List<Integer> fit = new ArrayList<>(List.of(0, 1, 2, 3));
             fit.removeIf(h -> !house.fit(0, h));
-            if (!fit.isEmpty()) {
-                hangings.retainAll(fit);
-            }
+            return fit;
         }
 
         void bed(StringBuilder text, char[][] grid) {

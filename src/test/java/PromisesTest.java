@@ -219,6 +219,7 @@ public final class PromisesTest {
         faulty(two + "door da 0 0 along x", 34, 1);
         faulty(two + "door da 0 0 along 0", 34, 2);
         faulty(two + "door da 0 0 along 4", 34, 2);
+        faulty("row wwww;door da 0 0 along 4", 27, 2);
         faulty(two + "door da 1 0 along 3", 34, 2);
         faulty(two + "door da 1 0 across 2", 35, 2);
         faulty(two + "door da 0 0 along 3;", 35, 1);
@@ -407,6 +408,12 @@ public final class PromisesTest {
         // beyond the house, but with x and y 0 to 9
         leafIs(x, 0, 2, 2, 1, 2);
         leafIs(x, 0, 3, 1, 1, 11);
+        x = of("row f;row f;row f;row f;row w;row f;row f;row w;door da 0 4 along 1 0;door db 0 7 along 1 0;");
+        leafIs(x, 0, 0, 2, 30);
+        leafIs(x, 0, 0, 0, 40);
+        leafIs(x, 0, 2, 1, 50);
+        leafIs(x, 1, 0, 1, 60);
+        due("can", x.can(0, 2), 7);
         x = of("row wwwwwwwwww;row fffffffffw;row fffffffffw;row fffffffffw;door da 9 1 across 3 0;");
         leafIs(x, 0, 0, 1, 18, 27, 28, 37);
         leafIs(x, 0, 1, 1, 17, 27, 28, 38);
@@ -511,6 +518,14 @@ public final class PromisesTest {
         x = of(fewOrCheap(7));
         due("cheapest: of like ones the fewest", x.cheapest(), 7);
         due("hung(0)", x.hung(0), 0);
+        due("hung(1)", x.hung(1), 2);
+        due("hung(2)", x.hung(2), 0);
+        // the same upside down: the fewest come ahead of the first
+        x = of("row fwfffwf;row fwfffwf;row fwfffwf;row wwwwwww;row fwfffwf;row fwfffwf;row fwfffwf;"
+            + "door da 2 3 along 3 0 may 2 costs 7;door db 1 2 across 1 2 may 0 costs 3;door dc 5 1 across 1 0 may 2 costs 4;");
+        due("clashes", x.clashes(), 2);
+        due("cheapest: the fewest ahead of the first", x.cheapest(), 7);
+        due("hung(0)", x.hung(0), 2);
         due("hung(1)", x.hung(1), 2);
         due("hung(2)", x.hung(2), 0);
         x = of("row ww;row ww;door da 0 0 along 1 0;");
@@ -668,6 +683,14 @@ public final class PromisesTest {
         due("joinerAt(0)", x.joinerAt(0), 1);
         due("joinerAt(1)", x.joinerAt(1), 0);
         due("joinerAt(2)", x.joinerAt(2), -1);
+        // three that move on one after the other, the last one first
+        BitingDoors z = of("row www;row www;row wfw;row www;row wfw;row www;row wfw;"
+            + "door da 1 1 along 1 0 may 2;door db 1 3 along 1 0 may 2;door dc 1 5 along 1 0 may 2;");
+        due("cheapest", z.cheapest(), 3);
+        due("joiner", z.joiner(), 0);
+        due("joinerAt(0)", z.joinerAt(0), 2);
+        due("joinerAt(1)", z.joinerAt(1), 1);
+        due("joinerAt(2)", z.joinerAt(2), 0);
         BitingDoors y = of("row fff;row www;row www;row fff;door da 1 1 along 1 2 may 0;door db 1 2 along 1 1 may 3;");
         due("joiner", y.joiner(), 0);
         due("lesser numbers first", y.joinerAt(0), 0);
@@ -1016,6 +1039,22 @@ public final class PromisesTest {
         due("it can't be at 1", x.judge(), 0);
         due("knock", x.judged(0), 6);
         // a draught shuts what is being shut: the second minute is waited
+        x = of(WAITING);
+        due("aa to 1", x.does(4), 0);
+        x.stand(4, 2);
+        x.does(8);
+        due("ac to 2", x.does(8), 0);
+        due("where ac would be shut to", x.stand(6, 4), true);
+        due("ab to 1", x.does(6), 0);
+        due("ac stays", doorOr(x, 2, 5), 2);
+        x.stand(4, 2);
+        dayOf(x, "shut ac;wait 1;");
+        due("judge", x.judge(), -1);
+        judgedIs(x, 0, 3, 24, 1, 3);
+        dayOf(x, "shut ac;shut ac;");
+        due("judge", x.judge(), 1);
+        judgedIs(x, 5, 2, 24, 1, 3);
+        // a draught shuts what is being opened
         x = of(HALL + "door da 1 0 along 1 2;door db 3 0 along 1 2;door dc 5 0 along 1 2;draught da db dc;bed 2 1;");
         dayOf(x, "open da;go south 1;go east 2;go north 1;open dc;open db;");
         due("live", x.live(), -1);
@@ -1037,6 +1076,10 @@ public final class PromisesTest {
         x.does(8);
         due("dc", doorOr(x, 2, 5), 2);
     }
+
+    /** As LOFT, but ab is where one stands in the way of ac. */
+    private static final String WAITING = "row wwwwwwww;row wffffffw;row wffffffw;row wwwwwwww;row wffffffw;row wffffffw;row wwwwwwww;"
+        + "door aa 0 1 across 1 2;door ab 7 5 across 1 0;door ac 5 3 along 2 2;draught aa ab ac;bed 1 2;";
 
     private static void waysThrough() {
         promise = "33, 34, 35";
@@ -1082,6 +1125,12 @@ public final class PromisesTest {
         for (int i = 0; i < acts.length; i++) {
             due("wayAt(" + i + ")", x.wayAt(i), acts[i]);
         }
+        x.stand(3, 0);
+        due("to the first cell of all", x.way(0, 0), 3);
+        due("west", x.wayAt(2), 3);
+        x.stand(0, 0);
+        due("from the first cell of all", x.way(0, 2), 2);
+        due("south", x.wayAt(1), 2);
         x.stand(2, 0);
         due("way", x.way(0, 2), 4);
         due("south ahead of west", x.wayAt(0), 2);
@@ -1114,6 +1163,10 @@ public final class PromisesTest {
         for (int i = 0; i < 6; i++) {
             six.append("door d").append((char) ('a' + i)).append(' ').append(i).append(" 0 along 1 2;");
         }
+        x = of(six.substring(0, six.lastIndexOf("door")));
+        due("five doors", x.way(5, 1), 5);
+        due("five doors", x.stride(), 0);
+        due("five doors", x.reach(1), 6);
         x = of(six.toString());
         due("six doors", x.way(0, 1), -2);
         due("six doors", x.stride(), -2);
@@ -1168,6 +1221,9 @@ public final class PromisesTest {
         due("the latest way stays", x.wayAt(1), -1);
         x.stand(5, 5);
         due("by the door", x.stride(), 8);
+        x = of("row fff;bed 0 0;");
+        x.stand(2, 0);
+        due("to the first cell of all", x.stride(), 2);
         x = of("row fwf;bed 0 0;");
         x.stand(2, 0);
         due("none", x.stride(), -1);
