@@ -1,8 +1,7 @@
-import java.util.NoSuchElementException;
 import java.util.Random;
 
 /** Any arguments in any state: nothing but the exception of door() comes out, and the same calls give the same answers. */
-public final class NeverThrowsTest {
+public final class NeverThrowsTest extends Kit {
     private static final int[] EDGES = {Integer.MIN_VALUE, Integer.MIN_VALUE + 1, -1000, -3, -2, -1, 0, 1, 2, 3, 4, 5, 9, 10, 11, 13, 14, 99,
         100, 511, 940, 1000, 1 << 16, Integer.MAX_VALUE - 1, Integer.MAX_VALUE};
     private static final String[] HOUSES = {
@@ -51,14 +50,6 @@ public final class NeverThrowsTest {
 
     private static int arg(Random random) {
         return random.nextInt(3) == 0 ? EDGES[random.nextInt(EDGES.length)] : random.nextInt(10);
-    }
-
-    private static int doorOr(BitingDoors x, int d, int what) {
-        try {
-            return x.door(d, what);
-        } catch (NoSuchElementException due) {
-            return -77;
-        }
     }
 
     private static int any(BitingDoors x, Random random, int call) {
@@ -110,18 +101,5 @@ public final class NeverThrowsTest {
             case 46: return x.sentence();
             default: return x.does(a);
         }
-    }
-
-    private static void tell(BitingDoors x, String text) {
-        x.end(0);
-        for (int i = 0; i < text.length(); i += 20) {
-            int[] word = new int[5];
-            for (int j = 0; j < 20; j++) {
-                int sign = i + j < text.length() ? text.charAt(i + j) : 0;
-                word[j / 4] |= sign << 8 * (3 - j % 4);
-            }
-            x.feed(word[0], word[1], word[2], word[3], word[4]);
-        }
-        x.end(text.length());
     }
 }

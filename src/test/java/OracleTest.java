@@ -5,14 +5,13 @@ import java.util.HashSet;
 import java.util.LinkedHashMap;
 import java.util.List;
 import java.util.Map;
-import java.util.NoSuchElementException;
 import java.util.Random;
 import java.util.Set;
 import java.util.TreeMap;
 import java.util.TreeSet;
 
 /** Plays random runs of calls on the program and on a slow second reading of the document, and compares each answer. */
-public final class OracleTest {
+public final class OracleTest extends Kit {
     private static final int RUNS = 700;
     private static final int CALLS = 130;
 
@@ -208,14 +207,7 @@ public final class OracleTest {
         }
 
         boolean tell(String text) {
-            for (int i = 0; i < text.length(); i += 20) {
-                int[] word = new int[5];
-                for (int j = 0; j < 20; j++) {
-                    int sign = i + j < text.length() ? text.charAt(i + j) : 0;
-                    word[j / 4] |= sign << 8 * (3 - j % 4);
-                }
-                program.feed(word[0], word[1], word[2], word[3], word[4]);
-            }
+            feed(program, text);
             model.tape = text;
             log.add("text of " + text.length() + ": " + text.replace('\n', '|'));
             return same("end", program.end(text.length()) ? 1 : 0, 1) && same("count 5", program.count(5), text.length());
@@ -254,18 +246,10 @@ public final class OracleTest {
             boolean good = same("place", program.place(), model.place()) && same("minutes", program.minutes(), model.minutes);
             for (int d = -1; d < 11 && good; d++) {
                 for (int what = -1; what < 10 && good; what++) {
-                    good = doorOr(d, what) == model.door(d, what) || same("door " + d + " " + what, 0, 1);
+                    good = doorOr(program, d, what) == model.door(d, what) || same("door " + d + " " + what, 0, 1);
                 }
             }
             return good;
-        }
-
-        int doorOr(int d, int what) {
-            try {
-                return program.door(d, what);
-            } catch (NoSuchElementException none) {
-                return -77;
-            }
         }
 
         boolean sameJudged() {

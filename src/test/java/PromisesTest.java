@@ -1,22 +1,7 @@
-import java.util.NoSuchElementException;
-
 /** Each promise of the document by answers worked out by hand: ordinary inputs, edges and wrong inputs. */
-public final class PromisesTest {
-    /** Two rooms; p leads from one to the other, q and r into the northern one. */
-    private static final String ROOMS = "row wwwwwwww;row wffffffw;row wffffffw;row wffffffw;row wwwwwwww;row wfftfffw;row wffffffw;"
-        + "row wwwwwwww;";
-    private static final String DOORS = "door p 2 4 along 3 0 may 1 may 2 costs 9;door q 0 1 across 2 2 whole;"
-        + "door r 5 0 along 1 3 may 2;";
-    private static final String MANSION = ROOMS + DOORS + "bed 6 3;";
-
+public final class PromisesTest extends Kit {
     /** A house that a fault must leave as it is. */
     private static final String TIGHT = "row wwwwww;row wffffw;row wffffw;row wwwwww;";
-
-    /** Two rooms of five by two with a wall between them. */
-    private static final String HALL = "row wwwwwww;row wfffffw;row wfffffw;row wwwwwww;row wfffffw;row wfffffw;row wwwwwww;";
-
-    private static int wrong;
-    private static String promise = "";
 
     public static void main(String[] args) {
         newObject();
@@ -57,55 +42,7 @@ public final class PromisesTest {
         sentenceFaults();
         imaging();
         counting();
-        System.out.println(wrong == 0 ? "PromisesTest: all answers are as due" : "PromisesTest: " + wrong + " answers are not as due");
-        if (wrong != 0) {
-            System.exit(1);
-        }
-    }
-
-    private static void due(String call, long got, long want) {
-        if (got != want) {
-            wrong++;
-            System.out.println(promise + ": " + call + " answered " + got + ", due is " + want);
-        }
-    }
-
-    private static void due(String call, boolean got, boolean want) {
-        due(call, got ? 1 : 0, want ? 1 : 0);
-    }
-
-    private static void tell(BitingDoors x, String text) {
-        for (int i = 0; i < text.length(); i += 20) {
-            int[] word = new int[5];
-            for (int j = 0; j < 20; j++) {
-                int sign = i + j < text.length() ? text.charAt(i + j) : 0;
-                word[j / 4] |= sign << 8 * (3 - j % 4);
-            }
-            x.feed(word[0], word[1], word[2], word[3], word[4]);
-        }
-        due("end(" + text.length() + ")", x.end(text.length()), true);
-    }
-
-    private static BitingDoors of(String house) {
-        BitingDoors x = new BitingDoors();
-        tell(x, house);
-        int lines = x.house();
-        if (lines < 0) {
-            due("house() of " + house, lines, 0);
-        }
-        return x;
-    }
-
-    private static String blanks(int many) {
-        return " ".repeat(many);
-    }
-
-    private static int doorOr(BitingDoors x, int d, int what) {
-        try {
-            return x.door(d, what);
-        } catch (NoSuchElementException none) {
-            return -77;
-        }
+        finish("PromisesTest");
     }
 
     private static void newObject() {
@@ -953,13 +890,6 @@ public final class PromisesTest {
         }
         due("judged(5)", x.judged(5), -2);
         due("judged(-1)", x.judged(-1), -2);
-    }
-
-    private static void dayOf(BitingDoors x, String text) {
-        tell(x, text);
-        if (x.day() < 0) {
-            due("day() of " + text, x.fault(), 0);
-        }
     }
 
     private static void judging() {
