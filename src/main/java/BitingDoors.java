@@ -1437,7 +1437,7 @@ public final class BitingDoors {
     private static final class Hanger {
         static final int CHEAP_UNIT = 16;
         static final int FEW_UNIT = 1024;
-        private static final int NO_KEY = Integer.MAX_VALUE;
+        private static final int NO_KEY = 1 << 30;
         private static final int UNSOLVED = -1;
 
         /** Of each hanging those that it does not bite. */
@@ -1756,7 +1756,7 @@ public final class BitingDoors {
         private static final int ACTS = 16;
         private static final int START = 1;
 
-        int[] acts = new int[64];
+        int[] acts = new int[32];
         int length;
         private final Scene scene = new Scene();
         /** Of each state what it was come to by: 0 by nothing, START, or that and one more than its forerunner and act. */

@@ -15,6 +15,9 @@ abstract class Kit {
     /** What door() is said to answer here when it throws as the document asks. */
     static final int THROWN = -77;
 
+    /** Numbers that are never a door, a hanging, an angle, a cell's column or row, a what or a place of images. */
+    static final int[] NEVER = {Integer.MIN_VALUE, Integer.MIN_VALUE + 1, -1000000, -3, 1000000, Integer.MAX_VALUE - 1, Integer.MAX_VALUE};
+
     static String promise = "";
     private static int wrong;
 
@@ -88,5 +91,44 @@ abstract class Kit {
         } catch (NoSuchElementException none) {
             return THROWN;
         }
+    }
+
+    /** One on whom much has been called: each thing that a later call might wrongly change has been told and has an answer of its own. */
+    static BitingDoors busy() {
+        BitingDoors x = of(MANSION);
+        dayOf(x, "go west 1;wait 2;");
+        tell(x, "length=3");
+        due("sentence", x.sentence(), 1);
+        due("forces", x.forces(1, 2, 1), 1);
+        due("joiner", x.joiner(), 1);
+        due("way", x.way(4, 2), 3);
+        due("judge", x.judge(), -1);
+        due("a step", x.does(3), 0);
+        due("a swing", x.does(4), 0);
+        due("rehang", x.rehang(2, 2), true);
+        return x;
+    }
+
+    /** All that can be seen, but for fault() and the tape, as a text to compare; few enough calls to look twice. */
+    static String look(BitingDoors x) {
+        StringBuilder seen = new StringBuilder();
+        for (int what = 0; what < 5; what++) {
+            seen.append(x.count(what)).append(' ').append(x.judged(what)).append(' ');
+        }
+        seen.append("cells ");
+        for (int i = 0; i < 10; i++) {
+            seen.append(x.cell(i, i)).append(' ').append(x.cell(9 - i, i)).append(' ');
+        }
+        seen.append("doors ");
+        for (int d = 0; d < x.count(2); d++) {
+            seen.append(x.door(d, 4)).append(' ').append(x.door(d, 5)).append(' ');
+        }
+        seen.append("now ").append(x.place()).append(' ').append(x.minutes()).append(' ').append(x.said()).append(' ').append(x.clashes());
+        seen.append(" told ");
+        for (int i = 0; i < 4; i++) {
+            seen.append(x.forced(i)).append(' ').append(x.forcedAt(i)).append(' ');
+            seen.append(x.joinerAt(i)).append(' ').append(x.wayAt(i)).append(' ');
+        }
+        return seen.toString();
     }
 }
