@@ -37,12 +37,15 @@ public final class HangingBoundariesTest extends Kit {
         hungArguments();
         waysToHang();
         forcesAll();
+        forcesToEach();
         forcesArguments();
         forcesThatAreRefused();
         stuckOnes();
         joinerOfAll();
         joinerThatIsNone();
+        joinerAboveAtFirst();
         rehanging();
+        askedFirst();
         finish("HangingBoundariesTest");
     }
 
@@ -497,6 +500,23 @@ public final class HangingBoundariesTest extends Kit {
         due("the dead one is not forced", x.forced(8), -1);
     }
 
+    /** A door is forced to each of the four hangings, the last one too. */
+    private static void forcesToEach() {
+        promise = "18, 19 (each hanging)";
+        for (int h = 0; h < 4; h++) {
+            BitingDoors x = of("row fff;row wfw;row fff;door da 0 1 along 1 0;door db 2 1 along 1 " + h + ";");
+            due("forces", x.forces(0, 0, 1), 2);
+            due("forced to " + h, x.forced(1), h);
+            // two are left, and the one that bites goes: da sweeps the cell that db would by its other hanging
+            int other = h < 2 ? 2 : 1;
+            String rows = h < 2 ? "row f;row w;row f;row w;" : "row w;row f;row w;row f;";
+            String doors = h < 2 ? "door da 0 3 along 1 0;door db 0 1 along 1 " : "door da 0 0 along 1 2;door db 0 2 along 1 ";
+            x = of(rows + doors + other + " may " + h + ";");
+            due("forces", x.forces(0, h < 2 ? 0 : 2, 0), 1);
+            due("forced to " + h, x.forced(1), h);
+        }
+    }
+
     private static void forcesArguments() {
         promise = "18, 19, 20 (arguments)";
         BitingDoors x = of(MANSION);
@@ -617,6 +637,22 @@ public final class HangingBoundariesTest extends Kit {
         due("joinerAt(1)", x.joinerAt(1), -1);
     }
 
+    /** "the greatest number of pairs that BITE ..., ahead of, between and behind the changes": between them alone. */
+    private static void joinerAboveAtFirst() {
+        promise = "22, 23 (between)";
+        // four go round: da, which is not fit as it hangs, from 31 32 to 1 11 12, db from 12 to 14, dc from 14 to 34, dd from 34 to 32
+        BitingDoors x = of("row wfwww;row wffwf;row wwwww;row wffwf;row wwwww;door da 1 2 along 2 2 may 0 whole;"
+            + "door db 3 1 across 1 0 may 2;door dc 4 2 along 1 0 may 2;door dd 3 3 across 1 2 may 0;");
+        due("nothing bites now", x.clashes(), 0);
+        due("da is not fit", x.fit(0, 2), 0);
+        due("da sweeps all the same", x.bites(0, 2, 3, 0), 1);
+        due("all four are changed", x.fewest(), 4);
+        due("whoever goes first bites the next", x.joiner(), 1);
+        for (int i = 0; i < 4; i++) {
+            due("joinerAt(" + i + ")", x.joinerAt(i), i);
+        }
+    }
+
     /** "DOOR d is rehung (one it was told with, FIT, the DOOR shut): true; false: not so." */
     private static void rehanging() {
         promise = "24";
@@ -650,5 +686,44 @@ public final class HangingBoundariesTest extends Kit {
         due("rehang", x.rehang(0, 2), true);
         due("not back", x.rehang(0, 0), false);
         due("hanging", doorOr(x, 0, 4), 2);
+    }
+
+    /** Each is of the HANGINGS of now, whatever was asked before: first of all calls, behind rehang(), house() and restore(). */
+    private static void askedFirst() {
+        promise = "12 to 22 (asked first)";
+        int[] first = {1, 9, 1, 1, 1, 2, 0, 1};
+        int[] behind = {0, 0, 1, 0, 1, 2, 0, 0};
+        for (int which = 0; which < first.length; which++) {
+            BitingDoors x = of(MANSION);
+            due("asked first: " + which, ask(x, which), first[which]);
+            due("rehang", x.rehang(0, 1), true);
+            due("behind rehang(): " + which, ask(x, which), behind[which]);
+            x.image(0);
+            tell(x, "row w;row f;door da 0 0 along 1 2;");
+            x.house();
+            due("behind house(): " + which, ask(x, which), new int[] {0, 0, 2, 0, 2, 1, 0, 0}[which]);
+            due("restore", x.restore(0), true);
+            due("behind restore(): " + which, ask(x, which), behind[which]);
+            due("rehang", x.rehang(0, 0), true);
+            due("behind rehang(): " + which, ask(x, which), first[which]);
+            // a house of one door: all hangings are others at once
+            x = of("row w;row f;door da 0 0 along 1 0 may 2 costs 7;");
+            due("one door: " + which, ask(x, which), new int[] {0, 7, 2, 1, 2, 1, 0, 0}[which]);
+            due("rehang", x.rehang(0, 2), true);
+            due("one door behind rehang(): " + which, ask(x, which), new int[] {0, 0, 2, 0, 2, 1, 0, 0}[which]);
+        }
+    }
+
+    private static int ask(BitingDoors x, int which) {
+        switch (which) {
+            case 0: return x.clashes();
+            case 1: return x.cheapest();
+            case 2: return x.hung(0);
+            case 3: return x.fewest();
+            case 4: return x.fewestBy(0);
+            case 5: return x.ways();
+            case 6: return x.stuck();
+            default: return x.joiner();
+        }
     }
 }

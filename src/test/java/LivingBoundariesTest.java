@@ -34,16 +34,19 @@ public final class LivingBoundariesTest extends Kit {
         judgingFirstAndLast();
         judgedWhat();
         judgedSwings();
+        judgedOfTen();
         living();
         wayArguments();
         wayThatStays();
         longestWay();
+        wayWithDraughts();
         walking();
         reaching();
         fiveDoors();
         quietness();
         striding();
         measures();
+        sweptInTheSouth();
         saidOfTen();
         images();
         counts();
@@ -150,6 +153,15 @@ public final class LivingBoundariesTest extends Kit {
         }
     }
 
+    /** Ten doors of one cell that swing to the north. */
+    private static String tenBetweenRows() {
+        StringBuilder ten = new StringBuilder("row ffffffffff;row wwwwwwwwww;row ffffffffff;bed 0 2;");
+        for (int d = 0; d < 10; d++) {
+            ten.append("door d").append((char) ('a' + d)).append(' ').append(d).append(" 1 along 1 0;");
+        }
+        return ten.toString();
+    }
+
     /** "0 to 3 a STEP ..., 4 and 2 d: DOOR d opened by an ANGLE, 5 and 2 d: shut by one, -1 waiting ... NONE - 1: no such one." */
     private static void actNumbers() {
         promise = "27 (numbers)";
@@ -159,11 +171,7 @@ public final class LivingBoundariesTest extends Kit {
         due("below waiting", x.does(-2), -2);
         due("waiting", x.does(-1), 0);
         due("minutes", x.minutes(), 1);
-        StringBuilder ten = new StringBuilder("row ffffffffff;row wwwwwwwwww;row ffffffffff;bed 0 2;");
-        for (int d = 0; d < 10; d++) {
-            ten.append("door d").append((char) ('a' + d)).append(' ').append(d).append(" 1 along 1 0;");
-        }
-        x = of(ten.toString());
+        x = of(tenBetweenRows());
         for (int d = 0; d < 10; d++) {
             x.stand(d, 2);
             due("shut already", x.does(5 + 2 * d), 5);
@@ -273,7 +281,14 @@ public final class LivingBoundariesTest extends Kit {
         due("da to 1: one's own place", x.does(4), 7);
         due("db to 1: one's own place", x.does(6), 7);
         due("nothing was done", x.minutes(), 4);
-        // wall ahead of leaf: what is beyond a shut door is not looked at
+        // one's own place is the first cell of all, or the last one
+        x = of("row fff;row wff;row fff;door da 0 1 along 1 0;bed 0 0;");
+        due("the first cell", x.does(4), 7);
+        x = of(FIELD.substring(0, 120) + "row fffffffffw;row ffffffffff;door da 9 8 along 1 2;bed 9 9;");
+        due("the last cell", x.does(4), 7);
+        x.stand(8, 9);
+        due("beside it", x.does(4), 0);
+        // what is beyond a shut door is not looked at
         x = of("row fwf;door da 1 0 across 1 0;bed 0 0;");
         due("a leaf", x.does(1), 3);
     }
@@ -524,6 +539,20 @@ public final class LivingBoundariesTest extends Kit {
         due("da is open", x.judged(4), 1);
     }
 
+    /** "4 DOORS that are not at ANGLE 0, as bits": all ten. */
+    private static void judgedOfTen() {
+        promise = "31 (ten doors)";
+        BitingDoors x = of(tenBetweenRows());
+        due("judge", x.judge(), -1);
+        due("none is open", x.judged(4), 0);
+        for (int d = 0; d < 10; d++) {
+            x.stand(d, 2);
+            opens(x, d, 1);
+            due("live", x.live(), -1);
+            due("open doors", x.judged(4), (2 << d) - 1);
+        }
+    }
+
     /** A day of one act: so many minutes, or, below 0, that knock at once. */
     private static void judgedDay(BitingDoors x, String day, int minutes) {
         dayOf(x, day);
@@ -637,6 +666,42 @@ public final class LivingBoundariesTest extends Kit {
         due("stride", x.stride(), 53);
     }
 
+    /** A WAY is of MINUTES, at the end of which draughts blow: what they shut is in the way no more, or is again. */
+    private static void wayWithDraughts() {
+        promise = "33, 34, 35 (draughts)";
+        // dc leads to the south, and with da and db open it is shut as soon as it is opened: db is shut first
+        BitingDoors x = of(HALL + "door da 1 0 along 1 2;door db 5 0 along 1 2;door dc 2 3 along 2 0;draught da db dc;bed 4 2;");
+        due("way with all shut", x.way(3, 4), 5);
+        x.stand(2, 1);
+        opens(x, 0, 1);
+        x.stand(4, 1);
+        opens(x, 1, 1);
+        x.stand(4, 2);
+        due("way", x.way(3, 4), 6);
+        int[] acts = {7, 8, 8, 3, 2, 2};
+        for (int i = 0; i < acts.length; i++) {
+            due("wayAt(" + i + ")", x.wayAt(i), acts[i]);
+        }
+        due("reach", x.reach(1), 22);
+        due("walk", x.walk(), 6);
+        due("dc", doorOr(x, 2, 5), 2);
+        due("place", x.place(), 43);
+        // dc has a leaf on the cell to go to, and is shut while one goes
+        x = of(NORTH_DOORS + "draught da db dc;bed 4 1;");
+        opens(x, 2, 2);
+        x.stand(2, 1);
+        opens(x, 0, 1);
+        opens(x, 1, 1);
+        due("dc", doorOr(x, 2, 5), 1);
+        x.stand(4, 2);
+        due("way", x.way(5, 1), 2);
+        due("wayAt(0)", x.wayAt(0), 0);
+        due("wayAt(1)", x.wayAt(1), 1);
+        due("as all stands one can't come there", x.reach(0), 7);
+        due("walk", x.walk(), 2);
+        due("place", x.place(), 15);
+    }
+
     /** "The latest such way() is gone from NOW on, as far as nothing knocks: how many MINUTES." */
     private static void walking() {
         promise = "35";
@@ -695,6 +760,10 @@ public final class LivingBoundariesTest extends Kit {
         due("nowhere", x.reach(1), -1);
         due("an empty house", new BitingDoors().reach(0), -1);
         due("an empty house", new BitingDoors().reach(1), -1);
+        // the first cell, with a door opened from it: its doorway is come to, and no cell is counted twice
+        x = of("row fff;row www;row fff;door da 1 1 along 1 2;bed 0 0;");
+        due("reach(0)", x.reach(0), 3);
+        due("reach(1)", x.reach(1), 4);
         // the first and the last column are not next to one another
         x = of("row fwwwwwwwwf;row fwwwwwwwwf;bed 0 1;");
         due("no wrap-around", x.reach(0), 2);
@@ -843,6 +912,18 @@ public final class LivingBoundariesTest extends Kit {
         x.rehang(0, 2);
         saidIs(x, "fit", 1);
         measureIs(x, "sweeps", 1);
+    }
+
+    /** Cells are swept in the north, in the south, and where the rows of both meet. */
+    private static void sweptInTheSouth() {
+        promise = "40 (sweeps)";
+        String room = "row wffff;";
+        BitingDoors x = of(room.repeat(10) + "door da 0 0 across 3 2;door db 0 3 across 3 2;door dc 0 7 across 3 2;");
+        saidIs(x, "sweeps=6", 7);
+        saidIs(x, "sweeps<6", 0);
+        due("bites", x.bites(0, 2, 1, 2), 0);
+        x = of("row fff;row fff;row fff;row www;row fff;row fff;row fff;door da 0 3 along 3 2;");
+        saidIs(x, "sweeps=6", 1);
     }
 
     private static void measureIs(BitingDoors x, String name, int so) {
